@@ -29,9 +29,8 @@ public final class ToneHouse {
     private final FullRows fullRows = new FullRows();
     private final Round round = new Round();
     private final long[] slots = new long[SLOTS];
-    private final ByteRow tape = new ByteRow();
+    private final Reader reader = new Reader();
     private final ByteRow written = new ByteRow();
-    private final Reader reader = new Reader(tape);
     private Score current = new Score();
 
     public ToneHouse() {
@@ -240,6 +239,7 @@ public final class ToneHouse {
     // ---- scores
 
     public int feed(int a, int b, int c, int d, int e) {
+        ByteRow tape = reader.tape();
         if (tape.length() + FED_BYTES > TAPE_BYTES) {
             return NONE;
         }
@@ -252,16 +252,16 @@ public final class ToneHouse {
     }
 
     public int end(int n) {
-        if (n < 0 || n > tape.length()) {
+        if (n < 0 || n > reader.tape().length()) {
             return NONE;
         }
-        tape.cut(n);
+        reader.tape().cut(n);
         return n;
     }
 
     public int load() {
         boolean sound = reader.read(tones.size());
-        tape.cut(0);
+        reader.tape().cut(0);
         if (!sound) {
             return NONE;
         }
@@ -366,8 +366,8 @@ public final class ToneHouse {
     }
 
     public int take() {
-        tape.copy(written);
-        return tape.length();
+        reader.tape().copy(written);
+        return reader.tape().length();
     }
 
     // ---- what can be
@@ -397,6 +397,11 @@ public final class ToneHouse {
     /** The set t steps later on a circle of that size; t lies in 0 .. size - 1. */
     private static int turned(int set, int t, int size) {
         return (set << t | set >>> (size - t)) & ((1 << size) - 1);
+    }
+
+    /** The least member of a set from x on; 32, beyond any circle, if there is none. */
+    private static int memberFrom(int set, int x) {
+        return Integer.numberOfTrailingZeros(set & -1 << x);
     }
 
     private static int leastPeriod(int c, int set) {
@@ -594,7 +599,8 @@ public final class ToneHouse {
             nameAll(MIRRORS);
             int size = Integer.bitCount(set);
             for (int other = 0; other < 1 << n; other++) {
-                if (isNameOfSize(MIRRORS, size, other) && other != names[MIRRORS][set] && haveSameIntervals(set, other)) {
+                boolean isOther = isNameOfSize(MIRRORS, size, other) && other != names[MIRRORS][set];
+                if (isOther && haveSameIntervals(set, other)) {
                     return other;
                 }
             }
@@ -641,7 +647,7 @@ public final class ToneHouse {
         }
     }
 
-    /** Least leadings: the notes of a are paired in rising order; what is left to pay hangs on the taken notes of b alone. */
+    /** Least leadings: a's notes are paired as they rise, so what is left to pay hangs on b's taken notes alone. */
     private static final class Leading {
         private final int[] sums = new int[MOST_SETS];
         private final int[] ways = new int[MOST_SETS];
@@ -687,11 +693,9 @@ public final class ToneHouse {
 
         private void list(int set, int[] notes) {
             int count = 0;
-            for (int x = 0; x < n && count < notes.length; x++) {
-                if ((set >> x & 1) != 0) {
-                    notes[count] = x;
-                    count++;
-                }
+            for (int x = memberFrom(set, 0); x < n && count < notes.length; x = memberFrom(set, x + 1)) {
+                notes[count] = x;
+                count++;
             }
         }
 
@@ -829,11 +833,9 @@ public final class ToneHouse {
             int open = notes & turned(gaps, last, n);
             // all gaps together lead half round, so that note has to be the last
             open &= length == n - 1 ? 1 << n / 2 : ~(1 << n / 2);
-            for (int x = 1; x < n; x++) {
-                if ((open >> x & 1) != 0) {
-                    int restGaps = gaps & ~(1 << gap(last, x, n));
-                    lengthen(n, length + 1, x, notes & ~(1 << x), restGaps, row | (long) x << 4 * length);
-                }
+            for (int x = memberFrom(open, 1); x < n; x = memberFrom(open, x + 1)) {
+                int restGaps = gaps & ~(1 << gap(last, x, n));
+                lengthen(n, length + 1, x, notes & ~(1 << x), restGaps, row | (long) x << 4 * length);
             }
         }
 
@@ -898,14 +900,12 @@ public final class ToneHouse {
                 return;
             }
             // the least open beat is some beat of the motif: each choice is one entry, so no fill is met twice
-            int open = Integer.numberOfTrailingZeros(~covered);
-            for (int beat = 0; beat < beats; beat++) {
-                if ((shape >> beat & 1) != 0) {
-                    int entry = gap(beat, open, beats);
-                    int placed = turned(shape, entry, beats);
-                    if ((placed & covered) == 0) {
-                        cover(covered | placed, entries | 1 << entry, depth + 1);
-                    }
+            int open = memberFrom(~covered, 0);
+            for (int beat = memberFrom(shape, 0); beat < beats; beat = memberFrom(shape, beat + 1)) {
+                int entry = gap(beat, open, beats);
+                int placed = turned(shape, entry, beats);
+                if ((placed & covered) == 0) {
+                    cover(covered | placed, entries | 1 << entry, depth + 1);
                 }
             }
         }
@@ -1165,14 +1165,14 @@ public final class ToneHouse {
         ROW, VOICE, AT, LETTER, NUMBER, EQUALS, SEMICOLON, END, STRANGE
     }
 
-    /** Reads a text as a score, token by token, up to its first fault. */
+    /** Holds the tape and reads it as a score, token by token, up to its first fault. */
     private static final class Reader {
         private static final int MISPLACED = 1;
         private static final int WRONG_LETTER = 2;
         private static final int WRONG_NUMBER = 3;
         private static final int TOO_MANY = 4;
 
-        private final ByteRow text;
+        private final ByteRow text = new ByteRow();
         private Score made = new Score();
         private int n;
         private Token token = Token.END;
@@ -1182,8 +1182,8 @@ public final class ToneHouse {
         private int fault;
         private int faultAt = NONE;
 
-        Reader(ByteRow tape) {
-            text = tape;
+        ByteRow tape() {
+            return text;
         }
 
         int faultKind() {
