@@ -998,11 +998,11 @@ public final class ToneHouse {
         }
 
         boolean spells(String word, int from, int to) {
-            if (word.length() != to - from) {
+            if (from < 0 || to > length || word.length() != to - from) {
                 return false;
             }
             for (int i = 0; i < word.length(); i++) {
-                if (get(from + i) != word.charAt(i)) {
+                if (bytes[from + i] != word.charAt(i)) {
                     return false;
                 }
             }

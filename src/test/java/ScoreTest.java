@@ -22,42 +22,6 @@ public final class ScoreTest {
         Check.finish();
     }
 
-    private static int four(String text, int from) {
-        int made = 0;
-        for (int i = from; i < from + 4; i++) {
-            made = made << 8 | (i < text.length() ? text.charAt(i) : 0);
-        }
-        return made;
-    }
-
-    private static void feedAll(ToneHouse x, String text) {
-        x.end(0);
-        for (int i = 0; i < text.length(); i += 20) {
-            int got = x.feed(four(text, i), four(text, i + 4), four(text, i + 8), four(text, i + 12), four(text, i + 16));
-            Check.due("25: feed of " + text, got, i + 20);
-        }
-        Check.due("26: end of " + text, x.end(text.length()), text.length());
-    }
-
-    private static int loadText(ToneHouse x, String text) {
-        feedAll(x, text);
-        int got = x.load();
-        Check.due("27: the tape is empty then", x.end(1), -1);
-        return got;
-    }
-
-    private static String outText(ToneHouse x) {
-        int length = x.write();
-        StringBuilder made = new StringBuilder();
-        for (int i = 0; i < length; i++) {
-            made.append((char) x.out(i));
-        }
-        for (int i : new int[] {Integer.MIN_VALUE, -1, length, length + 1, Integer.MAX_VALUE}) {
-            Check.due("36: out(" + i + ")", x.out(i), -1);
-        }
-        return made.toString();
-    }
-
     private static void tapes() {
         ToneHouse x = new ToneHouse();
         for (int i = 1; i <= 40; i++) {
@@ -86,7 +50,7 @@ public final class ScoreTest {
             "row p=" + NOTES + ";voice p p 0at 0;", "row r=" + NOTES + ";row i=" + NOTES + ";voice i r11at40;voice r u 00at07;"};
         int[][] due = {{0, 0}, {0, 0}, {1, 0}, {1, 0}, {1, 0}, {1, 1}, {2, 2}};
         for (int i = 0; i < texts.length; i++) {
-            Check.due("27: load of " + texts[i], loadText(x, texts[i]), due[i][1]);
+            Check.due("27: load of " + texts[i], Texts.loadText(x, texts[i]), due[i][1]);
             Check.due("28: fault(0)", x.fault(0), 0);
             Check.due("28: fault(1)", x.fault(1), -1);
             Check.due("29: rows", x.score(0), due[i][0]);
@@ -103,8 +67,8 @@ public final class ScoreTest {
 
     private static void expectFault(String text, int fault, int place) {
         ToneHouse x = new ToneHouse();
-        Check.due("27: load of a sound text", loadText(x, ROW_A + "voice a p 0 at 3 ;"), 1);
-        Check.due("27: load of " + text, loadText(x, text), -1);
+        Check.due("27: load of a sound text", Texts.loadText(x, ROW_A + "voice a p 0 at 3 ;"), 1);
+        Check.due("27: load of " + text, Texts.loadText(x, text), -1);
         Check.due("28: fault of " + text, x.fault(0), fault);
         Check.due("28: place of " + text, x.fault(1), place);
         for (int what : new int[] {Integer.MIN_VALUE, -1, 2, Integer.MAX_VALUE}) {
@@ -189,22 +153,22 @@ public final class ScoreTest {
         expectFault(six + " row a", 4, six.length() + 1);
         expectFault(six + voice + "row", 1, six.length() + voice.length());
         ToneHouse x = new ToneHouse();
-        Check.due("27: six rows and eight voices", loadText(x, six + voice.repeat(8)), 8);
+        Check.due("27: six rows and eight voices", Texts.loadText(x, six + voice.repeat(8)), 8);
         Check.due("29: six rows", x.score(0), 6);
         ToneHouse small = new ToneHouse();
         small.octave(3);
-        Check.due("27: a row of three", loadText(small, "row z=2 0 1;voice z u 2 at 40;"), 1);
-        Check.due("27: a note of four", loadText(small, "row z=2 0 3;"), -1);
+        Check.due("27: a row of three", Texts.loadText(small, "row z=2 0 1;voice z u 2 at 40;"), 1);
+        Check.due("27: a note of four", Texts.loadText(small, "row z=2 0 3;"), -1);
         Check.due("28: it is none", small.fault(0), 3);
         Check.due("28: at its place", small.fault(1), 10);
-        Check.due("27: a turn of four", loadText(small, "row z=2 0 1;voice z u 3 at 40;"), -1);
+        Check.due("27: a turn of four", Texts.loadText(small, "row z=2 0 1;voice z u 3 at 40;"), -1);
         Check.due("28: it can't be", small.fault(0), 3);
         Check.due("28: at its place", small.fault(1), 22);
     }
 
     private static void scores() {
         ToneHouse x = new ToneHouse();
-        loadText(x, ROW_A + "voice a p 0 at 0;voice a p 0 at 0;voice a p 0 at 0;voice a i 0 at 2;");
+        Texts.loadText(x, ROW_A + "voice a p 0 at 0;voice a p 0 at 0;voice a p 0 at 0;voice a i 0 at 2;");
         Check.due("29: each pair and beat counts", x.score(2), 36 + 3);
         Check.due("30: clashes of a voice", x.voice(0, 4), 25);
         Check.due("30: clashes of the mirrored voice", x.voice(3, 4), 3);
@@ -233,7 +197,7 @@ public final class ScoreTest {
 
     private static void fits() {
         ToneHouse x = new ToneHouse();
-        loadText(x, ROW_A + "voice a p 0 at 5;voice a p 0 at 5;");
+        Texts.loadText(x, ROW_A + "voice a p 0 at 5;voice a p 0 at 5;");
         for (int most : new int[] {Integer.MIN_VALUE, -1, 41, Integer.MAX_VALUE}) {
             Check.due("33: fit(0, " + most + ")", x.fit(0, most), -1);
             Check.due("33: nothing is done", x.voice(0, 3), 5);
@@ -251,7 +215,7 @@ public final class ScoreTest {
 
     private static void keeps() {
         ToneHouse x = new ToneHouse();
-        loadText(x, "row b = 0 2 4 6 8 10 1 3 5 7 9 11;voice b u 3 at 9;");
+        Texts.loadText(x, "row b = 0 2 4 6 8 10 1 3 5 7 9 11;voice b u 3 at 9;");
         for (int s = 0; s < 6; s++) {
             Check.due("34: keep(0, " + s + ")", x.keep(0, s), true);
             for (int i = 0; i < 12; i++) {
@@ -269,10 +233,10 @@ public final class ScoreTest {
 
     private static void octaveEmpties() {
         ToneHouse x = new ToneHouse();
-        loadText(x, ROW_A + "voice a p 0 at 5;");
+        Texts.loadText(x, ROW_A + "voice a p 0 at 5;");
         int length = x.write();
-        loadText(x, ROW_A + "voice a p 0 at 5;");
-        feedAll(x, "12345");
+        Texts.loadText(x, ROW_A + "voice a p 0 at 5;");
+        Texts.feedAll(x, "12345");
         x.octave(12);
         Check.due("2: the same N leaves the score", x.score(1), 1);
         x.octave(11);
@@ -289,20 +253,20 @@ public final class ScoreTest {
     private static void writing() {
         ToneHouse x = new ToneHouse();
         Check.due("35: write() of nothing", x.write(), 0);
-        feedAll(x, "row a");
+        Texts.feedAll(x, "row a");
         Check.due("37: take() of nothing", x.take(), 0);
         Check.due("37: the tape is empty then", x.end(1), -1);
-        loadText(x, "row b=11 10 9 8 7 6 5 4 3 2 1 00;row a=" + NOTES + ";voice a u 11at40;voice b r 01 at 07;");
+        Texts.loadText(x, "row b=11 10 9 8 7 6 5 4 3 2 1 00;row a=" + NOTES + ";voice a u 11at40;voice b r 01 at 07;");
         String want = "row b = 11 10 9 8 7 6 5 4 3 2 1 0 ;\n" + ROW_A + "voice a u 11 at 40 ;\nvoice b r 1 at 7 ;\n";
-        Check.due("35: " + outText(x), outText(x).equals(want), true);
-        loadText(x, "");
+        Check.due("35: " + Texts.outText(x), Texts.outText(x).equals(want), true);
+        Texts.loadText(x, "");
         Check.due("36: what is out stays", x.out(0), 'r');
-        feedAll(x, "some bytes");
+        Texts.feedAll(x, "some bytes");
         Check.due("37: take()", x.take(), want.length());
         Check.due("26: the tape has them", x.end(want.length() + 1), -1);
         Check.due("36: they are still out", x.out(want.length() - 1), 10);
         Check.due("27: load", x.load(), 2);
-        Check.due("35: the same again", outText(x).equals(want), true);
+        Check.due("35: the same again", Texts.outText(x).equals(want), true);
         Check.due("37: take() again", x.take(), want.length());
         Check.due("25: feed behind it", x.feed(0, 0, 0, 0, 0), want.length() + 20);
     }
@@ -506,7 +470,7 @@ public final class ScoreTest {
             String text = spoiled(random, madeText(random, n));
             Plain want = new Plain(n, text);
             faulty[want.fault]++;
-            Check.due("27: load of " + text, loadText(x, text), want.fault == 0 ? want.voices.size() : -1);
+            Check.due("27: load of " + text, Texts.loadText(x, text), want.fault == 0 ? want.voices.size() : -1);
             Check.due("28: fault of " + text, x.fault(0), want.fault);
             Check.due("28: place of " + text, x.fault(1), want.place);
             if (want.fault == 0) {
@@ -541,7 +505,7 @@ public final class ScoreTest {
             }
             Check.due("32: chord " + beat, x.chord(beat), chord);
         }
-        Check.due("35: written is " + want.written(), outText(x).equals(want.written()), true);
+        Check.due("35: written is " + want.written(), Texts.outText(x).equals(want.written()), true);
     }
 
     private static void mend(ToneHouse x, Plain want, Random random) {
@@ -565,7 +529,7 @@ public final class ScoreTest {
                 Check.due("34: kept note " + i, x.form(v % 6, 0, 0, i), want.sung(v, best + i));
             }
         }
-        Check.due("35: mended is " + want.written(), outText(x).equals(want.written()), true);
+        Check.due("35: mended is " + want.written(), Texts.outText(x).equals(want.written()), true);
         Check.due("37: take", x.take(), want.written().length());
         Check.due("27: load again", x.load(), want.voices.size());
     }
