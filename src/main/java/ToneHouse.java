@@ -399,9 +399,13 @@ public final class ToneHouse {
         return (set << t | set >>> (size - t)) & ((1 << size) - 1);
     }
 
-    /** The least member of a set from x on; 32, beyond any circle, if there is none. */
-    private static int memberFrom(int set, int x) {
-        return Integer.numberOfTrailingZeros(set & -1 << x);
+    /** The least member of a set that is not empty. */
+    private static int leastMember(int set) {
+        return Integer.numberOfTrailingZeros(set);
+    }
+
+    private static int withoutLeast(int set) {
+        return set & set - 1;
     }
 
     private static int leastPeriod(int c, int set) {
@@ -692,10 +696,10 @@ public final class ToneHouse {
         }
 
         private void list(int set, int[] notes) {
-            int count = 0;
-            for (int x = memberFrom(set, 0); x < n && count < notes.length; x = memberFrom(set, x + 1)) {
-                notes[count] = x;
-                count++;
+            int rest = set;
+            for (int i = 0; i < pairs && i < notes.length; i++) {
+                notes[i] = leastMember(rest);
+                rest = withoutLeast(rest);
             }
         }
 
@@ -833,7 +837,9 @@ public final class ToneHouse {
             int open = notes & turned(gaps, last, n);
             // all gaps together lead half round, so that note has to be the last
             open &= length == n - 1 ? 1 << n / 2 : ~(1 << n / 2);
-            for (int x = memberFrom(open, 1); x < n; x = memberFrom(open, x + 1)) {
+            for (int left = Integer.bitCount(open); left > 0; left--) {
+                int x = leastMember(open);
+                open = withoutLeast(open);
                 int restGaps = gaps & ~(1 << gap(last, x, n));
                 lengthen(n, length + 1, x, notes & ~(1 << x), restGaps, row | (long) x << 4 * length);
             }
@@ -900,9 +906,11 @@ public final class ToneHouse {
                 return;
             }
             // the least open beat is some beat of the motif: each choice is one entry, so no fill is met twice
-            int open = memberFrom(~covered, 0);
-            for (int beat = memberFrom(shape, 0); beat < beats; beat = memberFrom(shape, beat + 1)) {
-                int entry = gap(beat, open, beats);
+            int open = leastMember(~covered);
+            int rest = shape;
+            for (int left = Integer.bitCount(shape); left > 0; left--) {
+                int entry = gap(leastMember(rest), open, beats);
+                rest = withoutLeast(rest);
                 int placed = turned(shape, entry, beats);
                 if ((placed & covered) == 0) {
                     cover(covered | placed, entries | 1 << entry, depth + 1);

@@ -5,9 +5,12 @@ import java.lang.reflect.Method;
 import java.lang.reflect.Modifier;
 import java.nio.file.Files;
 import java.nio.file.Path;
+import java.util.ArrayList;
 import java.util.Arrays;
+import java.util.List;
 import java.util.Set;
 import java.util.TreeSet;
+import java.util.regex.Matcher;
 import java.util.regex.Pattern;
 
 /** The face of the class, the words its source does without, and calls with any arguments in any order. */
@@ -25,6 +28,7 @@ public final class FaceTest {
     public static void main(String[] args) throws Exception {
         face();
         source();
+        sizes();
         anyCalls();
         Check.finish();
     }
@@ -72,6 +76,38 @@ public final class FaceTest {
         for (String sign : new String[] {"->", "::", "Exact", "System.out", "Random", "nanoTime", "currentTime"}) {
             Check.due("the source has " + sign, code.contains(sign), false);
         }
+        loops(code);
+    }
+
+    /** Rule 9: an end that can be seen from the loop's own lines, so its step is reckoned there, by no call. */
+    private static void loops(String code) {
+        Matcher loop = Pattern.compile("\\bfor \\(([^;]*);([^;]*);([^{]*)\\) \\{").matcher(code);
+        int seen = 0;
+        while (loop.find()) {
+            seen++;
+            Check.due("a call steps on in " + loop.group(), loop.group(3).contains("("), false);
+        }
+        int all = code.split("\\b(for|while|do)\\b", -1).length - 1;
+        Check.due("loops that step on by a counter of their own", seen, all);
+    }
+
+    /** Rule 11: at most seven parameters, some twelve classes, some twenty fields beside the constants. */
+    private static void sizes() {
+        List<Class<?>> all = new ArrayList<>(Arrays.asList(ToneHouse.class.getDeclaredClasses()));
+        all.add(ToneHouse.class);
+        Check.due("12 classes at most, not " + all.size(), all.size() <= 12, true);
+        for (Class<?> type : all) {
+            int fields = 0;
+            for (Field field : type.getDeclaredFields()) {
+                fields += Modifier.isStatic(field.getModifiers()) ? 0 : 1;
+                boolean constant = !Modifier.isStatic(field.getModifiers()) || Modifier.isFinal(field.getModifiers());
+                Check.due(field + " is final if it is static", constant, true);
+            }
+            Check.due("20 fields at most in " + type + ", not " + fields, fields <= 20, true);
+            for (Method method : type.getDeclaredMethods()) {
+                Check.due(method + " takes 7 at most", method.getParameterCount() <= 7, true);
+            }
+        }
     }
 
     /** Any exception ends this test with a code other than 0. */
@@ -116,7 +152,7 @@ public final class FaceTest {
         return random.nextBoolean() ? 0xBA9876543210L >>> 4 * random.nextInt(2) : random.nextLong();
     }
 
-    private static int anyInt(java.util.Random random) {
+    static int anyInt(java.util.Random random) {
         switch (random.nextInt(6)) {
             case 0:
                 return random.nextInt();

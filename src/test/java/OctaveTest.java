@@ -68,7 +68,7 @@ public final class OctaveTest {
         return b == 0 ? a : gcd(b, a % b);
     }
 
-    private static List<Integer> factors(int n, int group) {
+    static List<Integer> factors(int n, int group) {
         List<Integer> found = new ArrayList<>();
         for (int m = 1; m < n; m++) {
             if (m == 1 || group >= 1 && m == n - 1 || group == 2 && gcd(m, n) == 1) {
@@ -78,7 +78,7 @@ public final class OctaveTest {
         return found;
     }
 
-    private static int plainImage(int n, int set, int m, int t) {
+    static int plainImage(int n, int set, int m, int t) {
         int made = 0;
         for (int x = 0; x < n; x++) {
             if ((set & 1 << x) != 0) {
@@ -88,7 +88,7 @@ public final class OctaveTest {
         return made;
     }
 
-    private static List<Integer> allImages(int n, int group, int set) {
+    static List<Integer> allImages(int n, int group, int set) {
         List<Integer> made = new ArrayList<>();
         for (int m : factors(n, group)) {
             for (int t = 0; t < n; t++) {
@@ -161,7 +161,7 @@ public final class OctaveTest {
         return found;
     }
 
-    private static List<Integer> intervalsOf(int n, int set) {
+    static List<Integer> intervalsOf(int n, int set) {
         int[] counts = new int[n / 2 + 1];
         List<Integer> all = notes(n, set);
         for (int i = 0; i < all.size(); i++) {
@@ -216,7 +216,7 @@ public final class OctaveTest {
         Check.due("10: no note lies in the empty set", x.within(2, 1, 0), 0);
     }
 
-    private static final class Pairings {
+    static final class Pairings {
         final int n;
         final List<Integer> from;
         final List<Integer> to;
@@ -287,7 +287,7 @@ public final class OctaveTest {
         }
     }
 
-    private static int plainRoad(int n, int a, int b) {
+    static int plainRoad(int n, int a, int b) {
         TreeSet<Integer> goals = new TreeSet<>(allImages(n, 1, b));
         Map<Integer, Integer> moves = new HashMap<>();
         ArrayDeque<Integer> queue = new ArrayDeque<>();

@@ -26,7 +26,7 @@ public final class RoundsTest {
         Check.finish();
     }
 
-    private static boolean fillsRound(int c, int motif, int entries) {
+    static boolean fillsRound(int c, int motif, int entries) {
         int[] times = new int[c];
         for (int a = 0; a < c; a++) {
             for (int b = 0; b < c; b++) {
@@ -43,7 +43,7 @@ public final class RoundsTest {
         return true;
     }
 
-    private static int plainPeriod(int c, int set) {
+    static int plainPeriod(int c, int set) {
         for (int p = 1; p <= c; p++) {
             int later = 0;
             for (int beat = 0; beat < c; beat++) {

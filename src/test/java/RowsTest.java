@@ -38,7 +38,7 @@ public final class RowsTest {
         return notes;
     }
 
-    private static long packed(List<Integer> notes) {
+    static long packed(List<Integer> notes) {
         long made = 0L;
         for (int i = 0; i < notes.size(); i++) {
             made |= (long) notes.get(i) << 4 * i;
@@ -46,7 +46,7 @@ public final class RowsTest {
         return made;
     }
 
-    private static List<Integer> plainForm(List<Integer> notes, int kind, int t) {
+    static List<Integer> plainForm(List<Integer> notes, int kind, int t) {
         int n = notes.size();
         List<Integer> made = new ArrayList<>();
         for (int x : notes) {
@@ -66,7 +66,7 @@ public final class RowsTest {
         return notes;
     }
 
-    private static boolean plainFull(List<Integer> notes) {
+    static boolean plainFull(List<Integer> notes) {
         Set<Integer> gaps = new HashSet<>();
         for (int i = 1; i < notes.size(); i++) {
             gaps.add(Math.floorMod(notes.get(i) - notes.get(i - 1), notes.size()));
@@ -184,7 +184,7 @@ public final class RowsTest {
         }
     }
 
-    private static void listFull(int n, List<Integer> begun, Set<Integer> gaps, List<List<Integer>> found) {
+    static void listFull(int n, List<Integer> begun, Set<Integer> gaps, List<List<Integer>> found) {
         if (begun.size() == n) {
             found.add(new ArrayList<>(begun));
             return;

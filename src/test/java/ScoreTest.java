@@ -1,6 +1,3 @@
-import java.util.ArrayList;
-import java.util.Collections;
-import java.util.List;
 import java.util.Random;
 
 /** Promises 25 to 37: fixed texts with their faults, and many made ones against a reader of its own. */
@@ -271,194 +268,6 @@ public final class ScoreTest {
         Check.due("25: feed behind it", x.feed(0, 0, 0, 0, 0), want.length() + 20);
     }
 
-    /** A reader of the same texts that cuts them into tokens first. */
-    private static final class Plain {
-        final int n;
-        final List<String> tokens = new ArrayList<>();
-        final List<Integer> places = new ArrayList<>();
-        final List<Character> letters = new ArrayList<>();
-        final List<List<Integer>> rows = new ArrayList<>();
-        final List<int[]> voices = new ArrayList<>();
-        int at = 0;
-        int fault = 0;
-        int place = -1;
-
-        Plain(int n, String text) {
-            this.n = n;
-            java.util.regex.Matcher m = java.util.regex.Pattern.compile("[A-Za-z]+|[0-9]+|[^ \n]").matcher(text);
-            while (m.find()) {
-                tokens.add(m.group());
-                places.add(m.start());
-            }
-            tokens.add("");
-            places.add(text.length());
-            while (fault == 0 && now("row")) {
-                row();
-            }
-            while (fault == 0 && now("voice")) {
-                voice();
-            }
-            need(now(""), 1);
-        }
-
-        private boolean now(String pattern) {
-            return tokens.get(at).matches(pattern);
-        }
-
-        private boolean need(boolean held, int otherwise) {
-            if (!held && fault == 0) {
-                fault = otherwise;
-                place = places.get(at);
-            }
-            return fault == 0;
-        }
-
-        private void row() {
-            if (!need(rows.size() < 6, 4)) {
-                return;
-            }
-            at++;
-            if (!need(now("[a-z]"), 1) || !need(!letters.contains(tokens.get(at).charAt(0)), 2)) {
-                return;
-            }
-            letters.add(tokens.get(at++).charAt(0));
-            if (!need(now("="), 1)) {
-                return;
-            }
-            at++;
-            List<Integer> notes = new ArrayList<>();
-            do {
-                if (!need(now("[0-9]{1,2}"), 1)) {
-                    return;
-                }
-                int note = Integer.parseInt(tokens.get(at));
-                if (!need(note < n && !notes.contains(note), 3)) {
-                    return;
-                }
-                notes.add(note);
-                at++;
-            } while (!now(";"));
-            if (need(notes.size() == n, 3)) {
-                rows.add(notes);
-                at++;
-            }
-        }
-
-        private void voice() {
-            if (!need(voices.size() < 8, 4)) {
-                return;
-            }
-            at++;
-            if (!need(now("[a-z]"), 1) || !need(letters.contains(tokens.get(at).charAt(0)), 2)) {
-                return;
-            }
-            int row = letters.indexOf(tokens.get(at++).charAt(0));
-            if (!need(now("[piru]"), 1)) {
-                return;
-            }
-            int kind = "piru".indexOf(tokens.get(at++));
-            if (!need(now("[0-9]{1,2}"), 1) || !need(Integer.parseInt(tokens.get(at)) < n, 3)) {
-                return;
-            }
-            int t = Integer.parseInt(tokens.get(at++));
-            if (!need(now("at"), 1)) {
-                return;
-            }
-            at++;
-            if (!need(now("[0-9]{1,2}"), 1) || !need(Integer.parseInt(tokens.get(at)) <= 40, 3)) {
-                return;
-            }
-            int begin = Integer.parseInt(tokens.get(at++));
-            if (need(now(";"), 1)) {
-                voices.add(new int[] {row, kind, t, begin});
-                at++;
-            }
-        }
-
-        int sung(int v, int beat) {
-            int[] one = voices.get(v);
-            int i = beat - one[3];
-            if (i < 0 || i >= n) {
-                return -1;
-            }
-            int note = rows.get(one[0]).get(one[1] < 2 ? i : n - 1 - i);
-            return Math.floorMod(one[1] % 2 == 0 ? note + one[2] : one[2] - note, n);
-        }
-
-        int clashes(int v) {
-            int count = 0;
-            for (int u = 0; u < voices.size(); u++) {
-                for (int beat = 0; u != v && beat < 60; beat++) {
-                    count += sung(v, beat) >= 0 && sung(v, beat) == sung(u, beat) ? 1 : 0;
-                }
-            }
-            return count;
-        }
-
-        String written() {
-            StringBuilder made = new StringBuilder();
-            for (int r = 0; r < rows.size(); r++) {
-                made.append("row ").append(letters.get(r)).append(" =");
-                for (int note : rows.get(r)) {
-                    made.append(' ').append(note);
-                }
-                made.append(" ;\n");
-            }
-            for (int[] one : voices) {
-                made.append("voice ").append(letters.get(one[0])).append(' ').append("piru".charAt(one[1]));
-                made.append(' ').append(one[2]).append(" at ").append(one[3]).append(" ;\n");
-            }
-            return made.toString();
-        }
-    }
-
-    private static String gapText(Random random, boolean needed) {
-        String[] some = {"", " ", "\n", "  ", " \n "};
-        return some[needed ? 1 + random.nextInt(4) : random.nextInt(8) % 5];
-    }
-
-    private static String madeText(Random random, int n) {
-        StringBuilder text = new StringBuilder(gapText(random, false));
-        int rows = 1 + random.nextInt(random.nextInt(5) == 0 ? 7 : 3);
-        for (int r = 0; r < rows; r++) {
-            List<Integer> notes = new ArrayList<>();
-            for (int i = 0; i < n; i++) {
-                notes.add(i);
-            }
-            Collections.shuffle(notes, random);
-            char letter = "pairutz".charAt(r);
-            text.append("row").append(gapText(random, true)).append(letter).append(gapText(random, false)).append('=');
-            for (int note : notes) {
-                text.append(gapText(random, true)).append(random.nextInt(9) == 0 && note < 10 ? "0" : "").append(note);
-            }
-            text.append(gapText(random, false)).append(';').append(gapText(random, false));
-        }
-        int voices = random.nextInt(10);
-        for (int v = 0; v < voices; v++) {
-            text.append("voice").append(gapText(random, true)).append("pairutz".charAt(random.nextInt(rows)));
-            text.append(gapText(random, true)).append("piru".charAt(random.nextInt(4))).append(gapText(random, false));
-            text.append(random.nextInt(n)).append(gapText(random, false)).append("at").append(gapText(random, false));
-            text.append(random.nextInt(random.nextInt(30) == 0 ? 60 : 20)).append(gapText(random, false)).append(';');
-        }
-        return text.toString();
-    }
-
-    private static String spoiled(Random random, String text) {
-        StringBuilder made = new StringBuilder(text);
-        String signs = "aprowviceut=;;  \n0123459A\tZ\u00ff";
-        for (int i = random.nextInt(3); i > 0 && made.length() > 0; i--) {
-            int at = random.nextInt(made.length());
-            char sign = signs.charAt(random.nextInt(signs.length()));
-            switch (random.nextInt(4)) {
-                case 0 -> made.setCharAt(at, sign);
-                case 1 -> made.insert(at, sign);
-                case 2 -> made.deleteCharAt(at);
-                default -> made.setLength(at);
-            }
-        }
-        return made.length() > 800 ? made.substring(0, 800) : made.toString();
-    }
-
     private static void madeTexts() {
         Random random = new Random(11);
         int sound = 0;
@@ -467,8 +276,8 @@ public final class ScoreTest {
             int n = 3 + random.nextInt(10);
             ToneHouse x = new ToneHouse();
             x.octave(n);
-            String text = spoiled(random, madeText(random, n));
-            Plain want = new Plain(n, text);
+            String text = MadeTexts.spoiled(random, MadeTexts.madeText(random, n));
+            PlainScore want = new PlainScore(n, text);
             faulty[want.fault]++;
             Check.due("27: load of " + text, Texts.loadText(x, text), want.fault == 0 ? want.voices.size() : -1);
             Check.due("28: fault of " + text, x.fault(0), want.fault);
@@ -482,7 +291,7 @@ public final class ScoreTest {
         System.out.println(sound + " sound texts; faults 1 to 4: " + faulty[1] + " " + faulty[2] + " " + faulty[3] + " " + faulty[4]);
     }
 
-    private static void compare(ToneHouse x, Plain want) {
+    private static void compare(ToneHouse x, PlainScore want) {
         int all = 0;
         int beats = 0;
         for (int v = 0; v < want.voices.size(); v++) {
@@ -508,7 +317,7 @@ public final class ScoreTest {
         Check.due("35: written is " + want.written(), Texts.outText(x).equals(want.written()), true);
     }
 
-    private static void mend(ToneHouse x, Plain want, Random random) {
+    private static void mend(ToneHouse x, PlainScore want, Random random) {
         for (int v = 0; v < want.voices.size(); v++) {
             int most = random.nextInt(41);
             int[] one = want.voices.get(v);

@@ -3,7 +3,7 @@ final class Texts {
     private Texts() {
     }
 
-    private static int four(String text, int from) {
+    static int four(String text, int from) {
         int made = 0;
         for (int i = from; i < from + 4; i++) {
             made = made << 8 | (i < text.length() ? text.charAt(i) : 0);
